@@ -872,7 +872,7 @@ public final class CarrierPool {
         private long scoreOf(int g, int t) {
             Telling give = giveAt(g);
             Telling take = takeAt(t);
-            if (give == null || take == null || !give.isNear(take)) {
+            if (!areNear(give, take)) {
                 return UNREACHED;
             }
             long apart = Math.abs(give.day - take.day);
@@ -957,7 +957,7 @@ public final class CarrierPool {
             Arrays.fill(steps, 0);
             queue[0] = least;
             int queued = 1;
-            for (int q = 0; q < queued; q++) {
+            for (int q = 0; q < queued && q < HOUSES; q++) {
                 int to = queue[q];
                 for (int h = least + 1; h < HOUSES && queued < HOUSES; h++) {
                     if (steps[h] == 0 && debt(kind, h, to) > 0) {
@@ -972,7 +972,8 @@ public final class CarrierPool {
         private int sizeAt(int kind, int least) {
             int size = 0;
             for (int h = least + 1; h < HOUSES; h++) {
-                if (steps[h] > 0 && debt(kind, least, h) > 0 && (size == 0 || steps[h] < size - 1)) {
+                boolean closes = steps[h] > 0 && debt(kind, least, h) > 0;
+                if (closes && (size == 0 || steps[h] + 1 < size)) {
                     size = steps[h] + 1;
                 }
             }
