@@ -287,6 +287,25 @@ public final class BoundaryTests {
         due("tell, though two are paired", -6, x.tell(false, 0, 1, 0, 2));
     }
 
+    private static void pairsOfAllTellings() {
+        CarrierPool x = pool(10, 6);
+        for (int i = 0; i < 200; i++) {
+            both(x, 9, 8, 5, 5, 6);
+        }
+        for (int i = 0; i < 25; i++) {
+            due("pair()", 8, x.pair());
+        }
+        due("pair()", 0, x.pair());
+        due("count(5)", 0, x.count(5));
+        due("count(6)", 200, x.count(6));
+        due("count(7)", 200, x.count(7));
+        due("pairOf(199, 0)", 398, x.pairOf(199, 0));
+        due("pairOf(200, 0)", -9, x.pairOf(200, 0));
+        due("judge(199, 5)", 6, x.judge(199, 5));
+        due("judge(200, 5)", -1, x.judge(200, 5));
+        due("turns(8, 5)", 1199, x.turns(8, 5));
+    }
+
     private static void tellsFrom1To1000() {
         int[] many = {1, 2, 999, 1000};
         CarrierPool x = pool(2, 1);
@@ -359,6 +378,24 @@ public final class BoundaryTests {
         for (int p = 0; p < dueGives.length; p++) {
             due("pairOf(" + p + ", 0)", dueGives[p], x.pairOf(p, 0));
         }
+    }
+
+    // The first group pairs three straight on; the second one's first give and take have none.
+    private static void eachGroupForItself() {
+        CarrierPool x = pool(3, 1);
+        x.tell(true, 0, 2, 0, 5);
+        x.days(10);
+        x.tell(false, 0, 2, 0, 5);
+        x.days(10);
+        for (int i = 0; i < 3; i++) {
+            both(x, 0, 1, 0, 5, 5);
+        }
+        both(x, 0, 2, 0, 5, 5);
+        due("pair()", 4, x.pair());
+        due("pairOf(3, 0)", 8, x.pairOf(3, 0));
+        due("pairOf(3, 1)", 9, x.pairOf(3, 1));
+        due("telling(0, 6)", 0, x.telling(0, 6));
+        due("telling(1, 6)", 0, x.telling(1, 6));
     }
 
     // So many tellings of one side out of reach, then one within reach of the other side's.
@@ -743,6 +780,20 @@ public final class BoundaryTests {
         }
     }
 
+    private static void theFirstHousePaysToo() {
+        CarrierPool x = pool(3, 1);
+        both(x, 1, 0, 0, 2, 2);
+        both(x, 0, 2, 0, 1, 1);
+        x.pair();
+        x.buy(1, 0, 9);
+        x.found(1, 0, 0);
+        dueShares("7 of 2, 0, 1", x, 5, 0, 2);
+        x.found(1, 0, 1);
+        dueShares("6 of 2, 0, 1", x, 4, 0, 2);
+        x.found(1, 0, 2);
+        dueShares("5 of 2, 0, 1", x, 3, 0, 2);
+    }
+
     private static void withoutTurnsNobodyPays() {
         CarrierPool x = pool(2, 1);
         x.buy(0, 0, 10);
@@ -806,6 +857,38 @@ public final class BoundaryTests {
         due("fees(0, 1)", 30 + 100, x.fees(0, 1));
         due("fees(0, 2)", 30 * 1101, x.fees(0, 2));
         due("fees(0, 19)", 30 * 1101, x.fees(0, 19));
+    }
+
+    private static void feesOfEachHouseAndKind() {
+        CarrierPool x = new CarrierPool();
+        for (int h = 0; h < 10; h++) {
+            x.house();
+        }
+        for (int k = 0; k < 6; k++) {
+            x.kind(1, k + 1);
+        }
+        x.days(30);
+        for (int h = 0; h < 10; h += 3) {
+            for (int k = 0; k < 6; k++) {
+                x.buy(h, k, 10 * h + k + 1);
+            }
+        }
+        for (int h = 0; h < 10; h++) {
+            int aDay = 0;
+            for (int k = 0; k < 6; k++) {
+                aDay += h % 3 == 0 ? (10 * h + k + 1) * (k + 1) : 0;
+            }
+            due("fees(" + h + ", 0)", 0, x.fees(h, 0));
+            due("fees(" + h + ", 1)", 30 * aDay, x.fees(h, 1));
+            due("fees(" + h + ", 2)", 30 * aDay, x.fees(h, 2));
+        }
+        x.days(30);
+        due("close()", 0, x.close());
+        due("close()", 1, x.close());
+        for (int h = 0; h < 10; h++) {
+            due("bill(" + h + ", 0)", 0, x.bill(h, 0));
+            due("bill(" + h + ", 1)", x.fees(h, 1), x.bill(h, 1));
+        }
     }
 
     private static void closingAMonthThatIsOver() {
@@ -903,6 +986,16 @@ public final class BoundaryTests {
         dueRing("one of 3", x, 7, 9, 8);
         owe(x, 0, 6, 9);
         dueRing("one of 2", x, 6, 9);
+        CarrierPool y = pool(10, 1);
+        owe(y, 0, 0, 1, 2, 3);
+        owe(y, 0, 0, 9, 8);
+        dueRing("of one least house, the fewer come after", y, 0, 9, 8);
+        CarrierPool z = pool(10, 1);
+        owe(z, 0, 0, 1, 2);
+        owe(z, 0, 0, 9, 8, 7);
+        dueRing("of one least house, the fewer come ahead", z, 0, 1, 2);
+        owe(z, 0, 0, 5, 6);
+        dueRing("of one least house, as many", z, 0, 1, 2);
     }
 
     private static void ofSeveralTheLeastHouse() {
@@ -1071,6 +1164,41 @@ public final class BoundaryTests {
         due("plan(), as much both ways", 5, x.plan());
         x.way(1, 3, 3);
         due("plan(), straight on", 4, x.plan());
+    }
+
+    private static int leastOf(int[][] ways, int giver, int taken) {
+        if (giver == ways.length) {
+            return 0;
+        }
+        int least = Integer.MAX_VALUE;
+        for (int w = 0; w < ways.length; w++) {
+            if ((taken >> w & 1) == 0) {
+                int sum = ways[giver][w] + leastOf(ways, giver + 1, taken | 1 << w);
+                least = Math.min(least, sum);
+            }
+        }
+        return least;
+    }
+
+    // Five houses that give one each and five that want one each: all 120 ways are tried.
+    private static void theLeastOfAllWays() {
+        int seed = 1;
+        for (int round = 0; round < 40; round++) {
+            CarrierPool x = pool(10, 0);
+            int[][] ways = new int[5][5];
+            for (int g = 0; g < 5; g++) {
+                int giver = round % 2 == 0 ? 5 + g : g;
+                x.want(giver, 1, 0);
+                for (int w = 0; w < 5; w++) {
+                    seed = (seed * 1103515245 + 12345) & 0x7fffffff;
+                    ways[g][w] = (seed >> 16) % 20;
+                    int want = round % 2 == 0 ? w : 5 + w;
+                    x.want(want, 0, 1);
+                    x.way(giver, want, ways[g][w]);
+                }
+            }
+            due("plan() of round " + round, leastOf(ways, 0, 0), x.plan());
+        }
     }
 
     // ==== Promises
@@ -1504,12 +1632,14 @@ public final class BoundaryTests {
         test("Terms: BUYING is an ENTRY of the DAY", BoundaryTests::buyingIsOfTheDay);
         test("Terms: BREAKING no more than the ACCOUNT", BoundaryTests::breakingNoMoreThanTheAccount);
         test("Terms: TELLINGS (400 at most)", BoundaryTests::tellings400AtMost);
+        test("Terms: TELLINGS (400 at most), all PAIRED", BoundaryTests::pairsOfAllTellings);
         test("Terms: TELLINGS: how many (1 .. 1000)", BoundaryTests::tellsFrom1To1000);
         test("Terms: from a HOUSE to another one", BoundaryTests::fromAHouseToAnother);
         test("Terms: the DAY on which it was told", BoundaryTests::toldOnItsDay);
         test("Terms: OPEN (at first), PAIRED, or GONE", BoundaryTests::openThenPairedOrGone);
         test("Terms: PAIRING for each from, to, KIND", BoundaryTests::onlyOfTheSameFromToKind);
         test("Terms: by from, then to, then KIND", BoundaryTests::byFromThenToThenKind);
+        test("Terms: of OPEN GIVES and TAKES of these", BoundaryTests::eachGroupForItself);
         test("Terms: of each the first 8 by numbers", BoundaryTests::firstEightOfEach);
         test("Terms: of OPEN ones the first 8", BoundaryTests::firstEightOfOpenOnes);
         test("Terms: whose DAYS are 3 apart at most", BoundaryTests::threeDaysApartAtMost);
@@ -1533,10 +1663,12 @@ public final class BoundaryTests {
         test("Terms: those with the greatest rest", BoundaryTests::oneMoreToTheGreatestRest);
         test("Terms: of several the lesser number", BoundaryTests::ofEqualRestsTheLesserNumber);
         test("Terms: till all is paid", BoundaryTests::tillAllIsPaid);
+        test("Terms: by HOUSES in proportion to their TURNS", BoundaryTests::theFirstHousePaysToo);
         test("Terms: without any TURNS nobody pays", BoundaryTests::withoutTurnsNobodyPays);
         test("Terms: TURNS as COUNTED, now", BoundaryTests::turnsAsCountedNow);
         test("Terms: FEES of an ACCOUNT above 0", BoundaryTests::feesOfAccountsAbove0);
         test("Terms: FEES over its 30 DAYS", BoundaryTests::feesOver30Days);
+        test("Terms: FEES of a HOUSE over all KINDS", BoundaryTests::feesOfEachHouseAndKind);
         test("Terms: its last DAY behind the DAY of now", BoundaryTests::closingAMonthThatIsOver);
         test("Terms: the FEES are kept, and stay", BoundaryTests::feesAreKeptAndStay);
         test("Terms: DEBTS 0 at first; 100000 at most", BoundaryTests::debts100000AtMost);
@@ -1553,6 +1685,7 @@ public final class BoundaryTests {
         test("Terms: all WANTS are met", BoundaryTests::allWantsAreMetWhenFull);
         test("Terms: own EMPTIES have the way 0", BoundaryTests::ownEmptiesHaveTheWay0);
         test("Terms: the least sum of ways", BoundaryTests::theLeastSum);
+        test("Terms: the least sum of all ways", BoundaryTests::theLeastOfAllWays);
     }
 
     private static void promises() {
