@@ -978,6 +978,18 @@ public final class BoundaryTests {
         due(words + ": ring(0, " + houses.length + ")", -9, x.ring(0, houses.length));
     }
 
+    private static void eachOwesTheNextOne() {
+        CarrierPool x = pool(5, 1);
+        owe(x, 0, 1, 3);
+        x.owe(3, 4, 0, 1);
+        x.owe(1, 2, 0, 1);
+        x.owe(0, 1, 0, 1);
+        dueRing("others that are owed, or owe, are not in it", x, 1, 3);
+        owe(x, 0, 0, 1);
+        x.owe(1, 4, 0, 1);
+        dueRing("nor here", x, 0, 1);
+    }
+
     private static void theFirstRingHasTheFewest() {
         CarrierPool x = pool(10, 1);
         owe(x, 0, 0, 1, 2, 3);
@@ -1166,38 +1178,67 @@ public final class BoundaryTests {
         due("plan(), straight on", 4, x.plan());
     }
 
-    private static int leastOf(int[][] ways, int giver, int taken) {
-        if (giver == ways.length) {
+    private static int seed = 1;
+
+    private static int chance(int below) {
+        seed = (seed * 1103515245 + 12345) & 0x7fffffff;
+        return (seed >> 16) % below;
+    }
+
+    // Each want takes one of the empties that are not used yet; the house of each is told.
+    private static int leastOf(int[][] ways, int[] wants, int[] empties, int want, int used) {
+        if (want == wants.length) {
             return 0;
         }
         int least = Integer.MAX_VALUE;
-        for (int w = 0; w < ways.length; w++) {
-            if ((taken >> w & 1) == 0) {
-                int sum = ways[giver][w] + leastOf(ways, giver + 1, taken | 1 << w);
-                least = Math.min(least, sum);
+        for (int e = 0; e < empties.length; e++) {
+            if ((used >> e & 1) == 0) {
+                int rest = leastOf(ways, wants, empties, want + 1, used | 1 << e);
+                least = Math.min(least, ways[wants[want]][empties[e]] + rest);
             }
         }
         return least;
     }
 
-    // Five houses that give one each and five that want one each: all 120 ways are tried.
-    private static void theLeastOfAllWays() {
-        int seed = 1;
-        for (int round = 0; round < 40; round++) {
-            CarrierPool x = pool(10, 0);
-            int[][] ways = new int[5][5];
-            for (int g = 0; g < 5; g++) {
-                int giver = round % 2 == 0 ? 5 + g : g;
-                x.want(giver, 1, 0);
-                for (int w = 0; w < 5; w++) {
-                    seed = (seed * 1103515245 + 12345) & 0x7fffffff;
-                    ways[g][w] = (seed >> 16) % 20;
-                    int want = round % 2 == 0 ? w : 5 + w;
-                    x.want(want, 0, 1);
-                    x.way(giver, want, ways[g][w]);
-                }
+    private static int[][] setWays(CarrierPool x, int houses, int below) {
+        int[][] ways = new int[houses][houses];
+        for (int a = 0; a < houses; a++) {
+            for (int b = a + 1; b < houses; b++) {
+                ways[a][b] = chance(below);
+                ways[b][a] = ways[a][b];
+                x.way(a, b, ways[a][b]);
             }
-            due("plan() of round " + round, leastOf(ways, 0, 0), x.plan());
+        }
+        return ways;
+    }
+
+    private static int[] someHouses(int many, int houses) {
+        int[] some = new int[many];
+        for (int i = 0; i < many; i++) {
+            some[i] = chance(houses);
+        }
+        return some;
+    }
+
+    private static int howMany(int[] some, int house) {
+        int sum = 0;
+        for (int one : some) {
+            sum += one == house ? 1 : 0;
+        }
+        return sum;
+    }
+
+    private static void theLeastOfAllWays() {
+        for (int round = 0; round < 400; round++) {
+            int houses = 3 + round % 8;
+            CarrierPool x = pool(houses, 0);
+            int[][] ways = setWays(x, houses, round % 3 == 0 ? 3 : 20);
+            int[] wants = someHouses(5, houses);
+            int[] empties = someHouses(5 + round % 2, houses);
+            for (int h = 0; h < houses; h++) {
+                x.want(h, howMany(empties, h), howMany(wants, h));
+            }
+            due("plan() of round " + round, leastOf(ways, wants, empties, 0, 0), x.plan());
         }
     }
 
@@ -1673,6 +1714,7 @@ public final class BoundaryTests {
         test("Terms: the FEES are kept, and stay", BoundaryTests::feesAreKeptAndStay);
         test("Terms: DEBTS 0 at first; 100000 at most", BoundaryTests::debts100000AtMost);
         test("Terms: a RING: HOUSES, 2 or more", BoundaryTests::aRingHas2HousesOrMore);
+        test("Terms: each of which owes the next one", BoundaryTests::eachOwesTheNextOne);
         test("Terms: the FIRST RING has the fewest HOUSES", BoundaryTests::theFirstRingHasTheFewest);
         test("Terms: of several its least HOUSE", BoundaryTests::ofSeveralTheLeastHouse);
         test("Terms: then the others in order", BoundaryTests::thenTheOthersInOrder);

@@ -410,6 +410,35 @@ public final class RefusalTests {
 
     // ---- refused calls, promise by promise
 
+    private static void newObject() {
+        State fresh = new State("a new object", x -> { });
+        promise = "1 a new object";
+        refused(fresh, "buy(0, 0, 1)", REFUSED + 1, x -> x.buy(0, 0, 1));
+        refused(fresh, "scrap(0, 0, 1)", REFUSED + 1, x -> x.scrap(0, 0, 1));
+        refused(fresh, "tell(true, 0, 1, 0, 1)", -1, x -> x.tell(true, 0, 1, 0, 1));
+        refused(fresh, "drop(0)", -1, x -> x.drop(0));
+        refused(fresh, "judge(0, 1)", -1, x -> x.judge(0, 1));
+        refused(fresh, "found(0, 0, 1)", REFUSED + 1, x -> x.found(0, 0, 1));
+        refused(fresh, "account(0, 0, 0)", REFUSED + 1, x -> x.account(0, 0, 0));
+        refused(fresh, "lost(0, 0)", REFUSED + 1, x -> x.lost(0, 0));
+        refused(fresh, "turns(0, 0)", -1, x -> x.turns(0, 0));
+        refused(fresh, "share(0, 0)", -1, x -> x.share(0, 0));
+        refused(fresh, "fees(0, 0)", -1, x -> x.fees(0, 0));
+        refused(fresh, "close()", -3, x -> x.close());
+        refused(fresh, "bill(0, 0)", -1, x -> x.bill(0, 0));
+        refused(fresh, "owe(0, 1, 0, 1)", -1, x -> x.owe(0, 1, 0, 1));
+        refused(fresh, "owes(0, 0, 0)", -1, x -> x.owes(0, 0, 0));
+        refused(fresh, "ring(0, 0)", -1, x -> x.ring(0, 0));
+        refused(fresh, "off(0)", -1, x -> x.off(0));
+        refused(fresh, "want(0, 1, 1)", -1, x -> x.want(0, 1, 1));
+        refused(fresh, "way(0, 1, 1)", -1, x -> x.way(0, 1, 1));
+        harmless(fresh, "pair()", 0, x -> x.pair());
+        harmless(fresh, "telling(0, 0)", -9, x -> x.telling(0, 0));
+        harmless(fresh, "pairOf(0, 0)", -9, x -> x.pairOf(0, 0));
+        harmless(fresh, "plan()", 0, x -> x.plan());
+        harmless(fresh, "check(0)", 0, x -> x.check(0) ? 1 : 0);
+    }
+
     private static void houseAndKind() {
         State ten = new State("10 houses", RefusalTests::tenHouses);
         State six = new State("6 kinds", RefusalTests::sixKinds);
@@ -780,6 +809,7 @@ public final class RefusalTests {
 
     public static void main(String[] args) {
         statesAreAsMeant();
+        newObject();
         houseAndKind();
         days();
         buy();
