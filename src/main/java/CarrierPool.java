@@ -633,10 +633,6 @@ public final class CarrierPool {
         int group() {
             return (from * HOUSES + to) * KINDS + kind;
         }
-
-        boolean isNear(Telling other) {
-            return Math.abs(day - other.day) <= Matching.MOST_APART;
-        }
     }
 
     /** A give and a take of the same carriers. */
@@ -797,7 +793,7 @@ public final class CarrierPool {
      */
     private static final class Matching {
         static final int SIDE = 8;
-        static final int MOST_APART = 3;
+        private static final int MOST_APART = 3;
         private static final int CHOICE_BITS = 4;
         private static final int CHOICE_MASK = 15;
         private static final long ONE_PAIR = 1L << 40;
@@ -849,7 +845,7 @@ public final class CarrierPool {
         }
 
         private static boolean areNear(Telling give, Telling take) {
-            return give != null && take != null && give.isNear(take);
+            return give != null && take != null && Math.abs(give.day - take.day) <= MOST_APART;
         }
 
         void solve() {
